@@ -166,7 +166,6 @@ public final class OtherwiseBook {
     }
 
     public int clause(int k, int i) {
-        if (!within(k, RULES)) return BAD;
         int bar = barClause(k, i);
         if (bar != FINE) return bar;
         int number = rules[k].numbers[i];
@@ -175,7 +174,7 @@ public final class OtherwiseBook {
     }
 
     public int mark(int k, int i, int kind) {
-        if (!within(k, RULES) || kind < PLAIN || kind > YESTERDAY) return BAD;
+        if (kind < PLAIN || kind > YESTERDAY) return BAD;
         int bar = barClause(k, i);
         if (bar != FINE) return bar;
         int number = rules[k].numbers[i];
@@ -349,7 +348,7 @@ public final class OtherwiseBook {
         int bar = barChange(rule, other, page, r);
         if (bar != FINE) return bar;
         int turns = turningDays(rules[rule], rules[other], pages[page], rows[r]);
-        told = turns == 0 ? NONE : Integer.numberOfTrailingZeros(turns);
+        told = firstOf(turns);
         return Integer.bitCount(turns);
     }
 
@@ -378,7 +377,7 @@ public final class OtherwiseBook {
         pages[page].unfold(rules[rule], 0, someDays);
         pages[page].unfold(rules[rule], 1 << day, otherDays);
         int otherwise = unlikeDays(pages[page].days);
-        told = otherwise == 0 ? NONE : 31 - Integer.numberOfLeadingZeros(otherwise);
+        told = lastOf(otherwise);
         return Integer.bitCount(otherwise);
     }
 
@@ -485,6 +484,7 @@ public final class OtherwiseBook {
     }
 
     private int barClause(int k, int i) {
+        if (!within(k, RULES)) return BAD;
         if (rules[k].isMissing()) return found(NOTHING);
         return within(i, rules[k].size) ? FINE : found(BEYOND);
     }
@@ -594,6 +594,22 @@ public final class OtherwiseBook {
             if (someDays[d] != otherDays[d]) bits |= 1 << d;
         }
         return bits;
+    }
+
+    /** The first day of a set; NONE: it has none. */
+    private static int firstOf(int bits) {
+        for (int d = 0; d <= MOST_DAYS; d++) {
+            if (((bits >> d) & 1) != 0) return d;
+        }
+        return NONE;
+    }
+
+    /** The last day of a set; NONE: it has none. */
+    private static int lastOf(int bits) {
+        for (int d = MOST_DAYS; d >= 0; d--) {
+            if (((bits >> d) & 1) != 0) return d;
+        }
+        return NONE;
     }
 
     /** The days t (bits) so that one RULE ahead of t and the other from t on need just the PAGE's LINES. */

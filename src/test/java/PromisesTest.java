@@ -458,6 +458,9 @@ public final class PromisesTest {
         Due.found(x, "4 is no weather", () -> x.expects(1, 1), UNLIKE);
         Due.row(x, 1, -1, 0);
         Due.found(x, "-1 is no weather", () -> x.expects(1, 1), UNLIKE);
+        Due.row(x, 1, 1, 2, 7);
+        Due.row(x, 1, 1, 2);
+        Due.asked(x, "what was behind the end does not count", x.expects(1, 1), 2, 0);
         Due.refused(x, "expects(4, 0)", () -> x.expects(4, 0), BAD);
         Due.refused(x, "expects(0, 6)", () -> x.expects(0, 6), BAD);
         Due.refused(x, "expects(-1, -1)", () -> x.expects(-1, -1), BAD);
