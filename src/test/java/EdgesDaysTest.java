@@ -337,7 +337,7 @@ public final class EdgesDaysTest {
             Witness w = null;
             for (int number = 0; number < end; number++) {
                 if (number % 200 == 0) w = new Witness("20 fewest, 21 many: by trying all").row(0, days);
-                int needed = linesNeeded(number, days);
+                int needed = Plain.linesNeeded(Plain.rule(number), days);
                 w.numbered(0, number);
                 w.quick(needed, "write", 0, 0, 0);
                 if (needed < fewest) {
@@ -351,28 +351,6 @@ public final class EdgesDaysTest {
             w.tells(fewest, first, "fewest", 3, size);
             w.is(many, "many", 3, size);
         }
-    }
-
-    private static int linesNeeded(int number, int[] days) {
-        int[] rule = number < 59 ? Witness.these(number) : Witness.these(number / 59 - 1, number % 59);
-        int needed = 0;
-        for (int d = 0; d < days.length; d++) if (expected(rule, days, d) != days[d]) needed++;
-        return needed;
-    }
-
-    private static int expected(int[] rule, int[] days, int d) {
-        for (int number : rule) {
-            String clause = Witness.CLAUSES.get(number);
-            int figure = clause.length() > 1 ? clause.charAt(1) - '0' : 1;
-            int weather = clause.charAt(clause.length() - 1) - '0';
-            switch (clause.charAt(0)) {
-                case 'c': return weather;
-                case 's': if (d % figure == 0) return weather; break;
-                case 'a': if (d > 0 && days[d - 1] == figure) return weather; break;
-                default: if (d >= figure) return days[d - figure];
-            }
-        }
-        return 0;
     }
 
     // ---- 22

@@ -202,7 +202,7 @@ final class Witness {
     }
 
     Witness numbered(int k, int number) {
-        rules[k] = number < 59 ? these(number) : these(number / 59 - 1, number % 59);
+        rules[k] = Plain.rule(number);
         quick(rules[k].length, "numbered", k, number);
         return this;
     }
