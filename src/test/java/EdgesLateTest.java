@@ -23,9 +23,11 @@ public final class EdgesLateTest {
         joinedRefused();
         joinedOneAnd24();
         joinedDays();
+        joinedBehindLongerOnes();
         followsPlaces();
         followsRefused();
         followsNoneToAll();
+        followsBehindLongerOnes();
         knowDaysAndWeathers();
         knowEight();
         knowBadAheadOfFull();
@@ -227,6 +229,22 @@ public final class EdgesLateTest {
         w.tells(4, 3, "joined", 2, 1, 0, 0);
         w.tells(0, 6, "joined", 0, 0, 0, 2);
         w.tells(0, 7, "joined", 0, 2, 0, 2);
+        // lines on day 0, of one page, of the other, of both
+        w.page(1, "n3 d0:1").page(2, "n3 d0:2").page(3, "n3");
+        w.tells(1, 3, "joined", 2, 1, 2, 3);
+        w.tells(1, 3, "joined", 2, 3, 2, 1);
+        w.tells(1, 3, "joined", 2, 1, 2, 2);
+        w.tells(0, 3, "joined", 2, 1, 2, 1);
+        w.tells(7, 3, "joined", 0, 1, 0, 2);
+    }
+
+    private static void joinedBehindLongerOnes() {
+        Witness w = chronicle("36 joined: what longer pages told before does not count");
+        w.page(1, "n24").page(2, "n1");
+        w.tells(ALL_24, 24, "joined", 0, 1, 1, 1);
+        w.tells(0, 1, "joined", 0, 2, 0, 2);
+        w.tells(ALL_24, 24, "joined", 1, 1, 0, 1);
+        w.tells(1, 1, "joined", 0, 2, 1, 2);
     }
 
     // ---- 37
@@ -272,6 +290,15 @@ public final class EdgesLateTest {
         w.rule(3, "b3").page(2, "n8 d0:1 d3:1");
         w.tells(1, 0, "follows", 3, 2, 0);
         w.tells(0, NONE, "follows", 3, 2, 1);
+    }
+
+    private static void followsBehindLongerOnes() {
+        Witness w = chronicle("37 follows: what longer pages told before does not count");
+        w.page(1, "n24 d0:1").page(2, "n1 d0:1");
+        w.tells(24, 23, "follows", 0, 1, 0);
+        w.tells(1, 0, "follows", 0, 2, 0);
+        w.tells(24, 23, "follows", 0, 1, 0);
+        w.tells(0, NONE, "follows", 1, 2, 0);
     }
 
     // ---- 38
@@ -408,6 +435,12 @@ public final class EdgesLateTest {
         w.forget(0).know(0, 0).know(0, 1);
         w.tells(1, 1, "forbids", 0, 0);
         w.tells(0, 1, "forbids", 1, 0);
+        // a line on day 0
+        w.page(1, "n2 d0:1");
+        w.tells(0, 1, "forbids", 2, 1);
+        w.forget(0).know(0, 1).know(1, 1);
+        w.is(NONE, "forbids", 0, 1);
+        w.tells(1, 1, "forbids", 2, 1);
     }
 
     // ---- 41

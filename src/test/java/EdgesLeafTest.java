@@ -22,6 +22,7 @@ public final class EdgesLeafTest {
         linesAheadAreIdle();
         linesBehindAreIdle();
         worldsEachOnce();
+        worldsEachOnceByEachDay();
         sureDays();
         sureOfNoWorlds();
         sureOfNoDay();
@@ -245,6 +246,25 @@ public final class EdgesLeafTest {
         w.rule(3, "a0:0 a1:0 a2:0 a3:0");
         w.is(16, "worlds", 3, 3, 0, 1, 3);
         w.is(4, "worlds", 3, 3, 0, 0, 3);
+        // three days of any weathers, but for the 16 whose last day makes the line behind idle
+        for (int v = 0; v < 4; v++) {
+            w.page(3, "n4 d3:" + v);
+            w.is(64 - 16, "worlds", 0, 3, 0, 2, 3);
+            w.is(15 - (1 << v), "can", 0, 3, 0, 2, 3, 2);
+        }
+    }
+
+    /** As above, with the line behind judged by another day of the leaf. */
+    private static void worldsEachOnceByEachDay() {
+        Witness w = chronicle("26 worlds: each once, whichever day of the leaf is otherwise");
+        for (int back = 1; back <= 3; back++) {
+            w.rule(3, back == 1 ? "y" : "b" + back);
+            for (int v = 0; v < 4; v++) {
+                w.page(3, "n4 d3:" + v);
+                w.is(64 - 16, "worlds", 3, 3, 0, 2, 3);
+                w.is(15 - (1 << v), "can", 3, 3, 0, 2, 3, 3 - back);
+            }
+        }
     }
 
     // ---- 27

@@ -34,6 +34,7 @@ public final class EdgesTellingTest {
         digestOfAll();
         digestWrapsAround();
         digestOfWhatIsNotTold();
+        the512thCall();
         Due.end();
     }
 
@@ -440,5 +441,14 @@ public final class EdgesTellingTest {
         w.tells(3, 3, "follows", 0, 0, 0);
         w.page(1, "n1 d0:2");
         w.fraction(50, 1, 1, "likely", 1, 1, 0, 2);
+    }
+
+    private static void the512thCall() {
+        Witness w = chronicle("1 .. 48: an object is used for 512 calls, the last one too");
+        w.reading(0, 0, 0, 2);
+        while (w.calls() < 512 - 11) w.quick(1, "at", 4, 0);
+        w.read = Witness.these(0, 2, 2);
+        w.tells(2, 0, "read");
+        Due.same("calls", w.calls(), 512);
     }
 }

@@ -8,7 +8,9 @@ import java.nio.file.Files;
 import java.nio.file.Path;
 import java.util.ArrayList;
 import java.util.List;
+import java.util.Map;
 import java.util.Set;
+import java.util.TreeMap;
 import java.util.TreeSet;
 import java.util.regex.Matcher;
 import java.util.regex.Pattern;
@@ -34,11 +36,15 @@ public final class FaceTest {
         "import", "package", "protected", "volatile", "native", "System\\.out", "System\\.nanoTime",
         "System\\.currentTimeMillis", "Random", "Thread", "->", "::", "Exact"};
 
+    private static final Set<String> LIBRARY = Set.of("Math.min", "Math.max", "Integer.bitCount", "System.arraycopy");
+
     public static void main(String[] args) throws Exception {
         face();
         constants();
         members();
         source();
+        library();
+        depth();
         makesNothing();
         Due.end();
     }
@@ -109,10 +115,18 @@ public final class FaceTest {
         }
     }
 
+    private static String all() throws IOException {
+        return Files.readString(Path.of("src/main/java/OtherwiseBook.java"));
+    }
+
+    private static String code() throws IOException {
+        return all().replaceAll("(?s)/\\*.*?\\*/", "").replaceAll("//[^\n]*", "");
+    }
+
     private static void source() throws IOException {
         Due.part("the source");
-        String all = Files.readString(Path.of("src/main/java/OtherwiseBook.java"));
-        String code = all.replaceAll("(?s)/\\*.*?\\*/", "").replaceAll("//[^\n]*", "");
+        String all = all();
+        String code = code();
         for (String word : LEFT_OUT) {
             String form = Character.isLetter(word.charAt(0)) && !word.equals("Exact") ? "\\b" + word + "\\b" : word;
             check("it has " + word, !Pattern.compile(form).matcher(code).find());
@@ -129,7 +143,48 @@ public final class FaceTest {
         }
     }
 
-    /** The dearest calls, as often as an object is used, make no objects at all. */
+    private static void library() throws IOException {
+        Due.part("the library");
+        Matcher used = Pattern.compile("\\b[A-Z][a-z]\\w*\\.\\w+").matcher(code());
+        while (used.find()) check("it uses " + used.group(), LIBRARY.contains(used.group()));
+        check("it uses a type that it does not need",
+                !Pattern.compile("\\b(double|float|String|StringBuilder|ArrayList|List)\\b").matcher(code()).find());
+    }
+
+    /** Methods of one name count as one: what is found is at least as deep as what can stand open. */
+    private static void depth() throws IOException {
+        Due.part("how deep calls go");
+        String code = code();
+        Map<String, StringBuilder> bodies = new TreeMap<>();
+        Matcher method = Pattern.compile("(?m)^( +)[\\w\\[\\] ]*\\b(\\w+)\\([^;=]*\\) \\{$").matcher(code);
+        while (method.find()) {
+            if (Set.of("for", "if", "while", "switch").contains(method.group(2))) continue;
+            int end = code.indexOf("\n" + method.group(1) + "}", method.end());
+            bodies.computeIfAbsent(method.group(2), name -> new StringBuilder()).append(code, method.end(), end);
+        }
+        for (String name : bodies.keySet()) {
+            int deep = deep(name, bodies, new ArrayList<>());
+            check(name + " goes " + deep + " deep", deep <= 8);
+        }
+        check("methods were found: " + bodies.size(), bodies.size() > FACE.length);
+    }
+
+    private static int deep(String name, Map<String, StringBuilder> bodies, List<String> open) {
+        if (open.contains(name)) {
+            Due.tell(name + " calls itself by " + open);
+            return 0;
+        }
+        open.add(name);
+        int deepest = 0;
+        Matcher called = Pattern.compile("\\b(\\w+)\\(").matcher(bodies.get(name));
+        while (called.find()) {
+            if (bodies.containsKey(called.group(1))) deepest = Math.max(deepest, deep(called.group(1), bodies, open));
+        }
+        open.remove(name);
+        return deepest + 1;
+    }
+
+    /** The dearest calls, again and again, make no objects at all. */
     private static void makesNothing() {
         Due.part("what calls make");
         OtherwiseBook x = new OtherwiseBook();
@@ -142,7 +197,7 @@ public final class FaceTest {
         com.sun.management.ThreadMXBean counter = (com.sun.management.ThreadMXBean) ManagementFactory.getThreadMXBean();
         dearest(x);
         long before = counter.getCurrentThreadAllocatedBytes();
-        for (int i = 0; i < 40; i++) dearest(x);
+        for (int i = 0; i < 20; i++) dearest(x);
         long made = counter.getCurrentThreadAllocatedBytes() - before;
         check("calls made " + made + " bytes", made < 100000);
     }

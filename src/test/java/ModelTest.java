@@ -12,6 +12,8 @@ import java.util.regex.Pattern;
 public final class ModelTest {
     private static final int BAD = -1, FULL = -2, FINDING = -3, STATE = -4, SPENT = -6, NONE = -9;
     private static final int NOTHING = 1, BEYOND = 2, UNLIKE = 3, NOUGHT = 4, SIZE = 5;
+    /** How often an object is used, and how many calls a look at all that tells needs. */
+    private static final int MOST_CALLS = 512, LOOK = 10;
     private static final List<String> CLAUSES = clauses();
     private static final List<List<String>> RULES = rulesOfTwo();
     private static final Pattern RULE = Pattern.compile("(?: *(?:c[0-3]|y|b[2-7]|s[2-9]:[0-3]|a[0-3]:[0-3])){0,4} *");
@@ -785,6 +787,7 @@ public final class ModelTest {
     private final Random by;
     private final int run;
     private final int[] answered;
+    private int calls = 0;
 
     private ModelTest(int run, int[] answered) {
         this.run = run;
@@ -792,18 +795,41 @@ public final class ModelTest {
         this.answered = answered;
     }
 
-    private void both(String name, int... a) {
+    /** Ends a run: the document promises nothing behind an object's 512th call. */
+    private static final class Spent extends RuntimeException {
+        Spent() {
+            super(null, null, false, false);
+        }
+    }
+
+    private void quick(String name, int... a) {
+        if (calls + 2 * LOOK >= MOST_CALLS) throw new Spent();
         long want = call(name, a);
-        long got = real(book, name, a);
-        String told = "run " + run + ": " + name + Arrays.toString(a);
-        Due.same(told, got, want);
+        calls++;
+        Due.same(told(name, a), real(book, name, a), want);
+        if (want >= 0 || want == NONE) answered[Arrays.asList(CALLS).indexOf(form(name))]++;
+    }
+
+    private String told(String name, int[] a) {
+        return "run " + run + ": " + name + Arrays.toString(a);
+    }
+
+    private void both(String name, int... a) {
+        int often = Arrays.stream(findings).sum();
+        quick(name, a);
+        String told = told(name, a);
+        calls += 2;
         Due.same(told + ", asked()", book.asked(), asked);
+        Due.same(told + ", digest()", book.digest(), digest());
+        if (often != Arrays.stream(findings).sum() || name.equals("likely") || by.nextInt(6) == 0) look(told);
+    }
+
+    private void look(String told) {
+        calls += LOOK - 2;
         Due.same(told + ", finding()", book.finding(), finding);
         Due.same(told + ", upper()", book.upper(), upper);
         Due.same(told + ", lower()", book.lower(), lower);
-        Due.same(told + ", digest()", book.digest(), digest());
         for (int f = 1; f <= 5; f++) Due.same(told + ", findings(" + f + ")", book.findings(f), findings[f]);
-        if (want >= 0 || want == NONE) answered[Arrays.asList(CALLS).indexOf(form(name))]++;
     }
 
     private static String form(String name) {
@@ -814,7 +840,7 @@ public final class ModelTest {
     private void lay(int t, String signs) {
         both("text", t, signs.length());
         for (int i = 0; i < signs.length(); i++) {
-            if (signs.charAt(i) != ' ') both("put", t, i, signs.charAt(i));
+            if (signs.charAt(i) != ' ') quick("put", t, i, signs.charAt(i));
         }
         both("fault", t, 0);
         both("fault", t, 1);
@@ -860,7 +886,7 @@ public final class ModelTest {
             return;
         }
         both("row", r, 1 + by.nextInt(12));
-        for (int i = 0; i < rows[r].length; i++) both("lay", r, i, by.nextInt(4));
+        for (int i = 0; i < rows[r].length; i++) quick("lay", r, i, by.nextInt(4));
     }
 
     /** Known things that often are so by some rule and page, so that few are gainsaid. */
@@ -895,28 +921,45 @@ public final class ModelTest {
         for (int r = 0; r < 6; r++) layRow(r);
     }
 
-    private void go(int calls) {
-        if (run % 5 > 0) begin();
-        for (int i = 0; i < calls; i++) {
-            int choice = by.nextInt(60);
-            int t = by.nextInt(4);
-            if (choice == 0) { lay(t, ruleText()); both("rule", by.nextInt(4), t); }
-            else if (choice == 1) { lay(t, pageText()); both("page", by.nextInt(4), t); }
-            else if (choice == 2) layRow(by.nextInt(6));
-            else if (choice == 3) layKnown();
-            else if (choice == 4) both("write", t, by.nextInt(6), by.nextInt(4));
-            else {
-                String[] form = CALLS[by.nextInt(CALLS.length)].split(" ", 2);
-                both(form[0], arguments(form[1], by));
-            }
+    private void go() {
+        try {
+            if (run % 5 > 0) begin();
+            for (int i = 0; i < MOST_CALLS; i++) choose();
+        } catch (Spent spent) {
+            look("run " + run + ": at its end");
+        }
+    }
+
+    /** A READING that is often kept and gone on from. */
+    private void goOnReading() {
+        both("open", by.nextInt(4), by.nextInt(4));
+        for (int i = by.nextInt(8); i > 0; i--) {
+            if (by.nextInt(3) == 0) both("keep", by.nextInt(3));
+            if (by.nextInt(3) == 0) both("on", by.nextInt(3));
+            both("read");
+        }
+    }
+
+    private void choose() {
+        int choice = by.nextInt(60);
+        int t = by.nextInt(4);
+        if (choice == 0) { lay(t, ruleText()); both("rule", by.nextInt(4), t); }
+        else if (choice == 1) { lay(t, pageText()); both("page", by.nextInt(4), t); }
+        else if (choice == 2) layRow(by.nextInt(6));
+        else if (choice == 3) layKnown();
+        else if (choice == 4) both("write", t, by.nextInt(6), by.nextInt(4));
+        else if (choice == 5) goOnReading();
+        else {
+            String[] form = CALLS[by.nextInt(CALLS.length)].split(" ", 2);
+            both(form[0], arguments(form[1], by));
         }
     }
 
     public static void main(String[] args) {
-        int runs = args.length > 0 ? Integer.parseInt(args[0]) : 150;
+        int runs = args.length > 0 ? Integer.parseInt(args[0]) : 2000;
         Due.part("model");
         int[] answered = new int[CALLS.length];
-        for (int run = 0; run < runs; run++) new ModelTest(run, answered).go(220);
+        for (int run = 0; run < runs; run++) new ModelTest(run, answered).go();
         for (int i = 0; i < CALLS.length; i++) {
             boolean again = i > 0 && CALLS[i].equals(CALLS[i - 1]);
             if (answered[i] < 20 && !again) Due.tell(CALLS[i] + " was answered only " + answered[i] + " times");
